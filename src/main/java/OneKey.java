@@ -499,10 +499,11 @@ public final class OneKey {
             return had;
         }
 
-        /** Does the lines to a gaol; answers the place of the first fault, at which it ends, or NONE. */
+        /** Does the lines to a gaol, which is of no use behind a fault: the place of the first fault, or NONE. */
         int readInto(Gaol gaol) {
             end = 0;
-            for (lines = 1; lines <= MOST_LINES; lines++) {
+            for (int line = 1; line <= MOST_LINES; line++) {
+                lines = line;
                 nextToken();
                 if (!readLine(gaol, wordHere())) {
                     return start;
@@ -525,19 +526,16 @@ public final class OneKey {
                 case GAOL_WORD:
                     return readGaol(gaol);
                 case KITCHEN_WORD:
-                    int kitchen = nextNumber(0, gaol.rooms - 1);
-                    gaol.kitchen = kitchen;
-                    return kitchen != NONE;
+                    gaol.kitchen = nextNumber(0, gaol.rooms - 1);
+                    return gaol.kitchen != NONE;
                 case HUNGRY_WORD:
                     return readHungry(gaol);
                 case SOAP_WORD:
-                    int turns = nextNumber(0, MOST_TURNS);
-                    gaol.turns = turns;
-                    return turns != NONE;
+                    gaol.turns = nextNumber(0, MOST_TURNS);
+                    return gaol.turns != NONE;
                 case KEY_WORD:
-                    int keyRoom = nextNumber(0, gaol.rooms - 1);
-                    gaol.keyRoom = keyRoom;
-                    return keyRoom != NONE;
+                    gaol.keyRoom = nextNumber(0, gaol.rooms - 1);
+                    return gaol.keyRoom != NONE;
                 case GUARD_WORD:
                     return readGuard(gaol);
                 default:
@@ -568,9 +566,8 @@ public final class OneKey {
             if (guard == NONE) {
                 return false;
             }
-            int room = nextNumber(0, gaol.rooms - 1);
-            gaol.guardRoom[guard] = room;
-            return room != NONE;
+            gaol.guardRoom[guard] = nextNumber(0, gaol.rooms - 1);
+            return gaol.guardRoom[guard] != NONE;
         }
 
         private boolean readDoor(Gaol gaol, int kind) {
@@ -1114,7 +1111,7 @@ public final class OneKey {
         private final Gaol gaol;
         private final int[] heardMinute = new int[MOST_HEARD];
         private final int[] heardDoor = new int[MOST_HEARD];
-        /** Ways to each room in so many minutes, and from each room behind so many minutes to the end. */
+        /** Ways to each room in so many minutes, and on from each room behind so many minutes (not 0) to the end. */
         private final long[][] waysTo = new long[MOST_MINUTES + 1][MOST_ROOMS];
         private final long[][] waysOn = new long[MOST_MINUTES + 1][MOST_ROOMS];
         int heardCount;
@@ -1201,7 +1198,7 @@ public final class OneKey {
 
         private void countWaysOn(int m) {
             Arrays.fill(waysOn[m], 1);
-            for (int minute = m - 1; minute >= 0; minute--) {
+            for (int minute = m - 1; minute > 0; minute--) {
                 Arrays.fill(waysOn[minute], 0);
                 for (int from = 0; from < gaol.rooms; from++) {
                     for (int door = NONE; door < gaol.doors; door++) {

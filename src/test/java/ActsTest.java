@@ -26,6 +26,9 @@ public final class ActsTest {
             due.is("act(" + (50 + code) + ")", x.act(50 + code), NOT);
         }
         due.is("refused acts take no minute", x.count(5), 0);
+        OneKey atDoor = Due.told("plain 0 1 1;soap 1");
+        atDoor.act(0);
+        due.is("no act at a door either", atDoor.act(44), NOT);
     }
 
     private static void takeAndHang() {

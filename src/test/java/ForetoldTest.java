@@ -46,6 +46,9 @@ public final class ForetoldTest {
         codes("through a kitchen behind a door", Due.told("plain 0 1 0;kitchen 1;hungry 1"), false, 0, 14, 2, 3);
         codes("with soap", Due.told("plain 0 1 0;kitchen 1;hungry 1;soap 1"), false, 2 + 32, 2, 3);
         codes("the other one's hand", Due.told("gaol 3;false 0 1 1;false 1 2 1;guard 1 1;hungry 2"), false, 2, 4, 55);
+        OneKey holder = Due.told("guard 1 1;hungry 0");
+        holder.act(0);
+        codes("the key is hung up first", holder, false, 1, 2, 3);
         OneKey x = Due.told("plain 0 1 0;hungry 1");
         x.act(50);
         codes("from now", x, false, 2, 74, 3);
@@ -118,6 +121,7 @@ public final class ForetoldTest {
         due.is("no code", never.out(0), NONE);
         due.is("below", never.out(-2), OneKey.OUTSIDE);
         OneKey x = Due.told("plain 0 1 0;guard 0 1;guard 1 1;key 1");
+        due.is("ahead of an act", x.out(NONE), 2);
         x.act(50);
         codes("from now", x, true, 74);
     }
@@ -151,6 +155,7 @@ public final class ForetoldTest {
         due.is("part 2", one.odds(1, 1, 2), OneKey.OUTSIDE);
         due.is("part -1", one.odds(1, 1, -1), OneKey.OUTSIDE);
         one.act(0);
+        fraction("ahead of the door", one, 5, 0, 1, 2);
         one.act(14);
         fraction("behind the door", one, 5, 0, 1, 1);
     }

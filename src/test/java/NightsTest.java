@@ -83,6 +83,10 @@ public final class NightsTest {
         due.is("the key is in the yard", x.count(4), 0);
         due.is("still from the room told", x.night(1, 1), 7);
         due.is("a night is no minute", x.count(5), 2);
+        Due.write(x, "key 2");
+        x.gaol();
+        due.is("from another room told", x.night(1, 1), 6);
+        due.is("from another room told: ways", x.night(1, 0), 2);
     }
 
     private static void largeNights() {
@@ -92,6 +96,11 @@ public final class NightsTest {
         due.is("rooms", x.night(10, 1), 3);
         due.is("ask", x.ask(10), 9);
         due.is("ask of one", x.ask(1), 0);
+        OneKey ring = Due.told("gaol 6;plain 0 1 0;plain 1 2 0;plain 2 3 0;plain 3 4 0;plain 4 5 0;plain 5 0 0;key 5");
+        due.is("a ring of six: ways", ring.night(10, 0), 59049);
+        due.is("a ring of six: rooms", ring.night(10, 1), 63);
+        due.is("a ring of six: two minutes", ring.night(2, 1), 59);
+        due.is("a ring of six: ask", ring.ask(10), 9);
     }
 
     private static void asking() {

@@ -80,6 +80,9 @@ public final class TellingTest {
         due.is("a shorter word", Due.fault("ke 0"), 0);
         due.is("capitals", Due.fault("Key 0"), 0);
         due.is("a capital within", Due.fault("kEy 0"), 0);
+        due.is("another first letter", Due.fault("bey 0"), 0);
+        due.is("z is a letter of its row", Due.fault("keyz 0"), 0);
+        due.is("a is a letter of its row", Due.fault("keya 0"), 0);
         due.is("a number for a word", Due.fault("3 key 0"), 0);
         due.is("an empty line ahead", Due.fault(";key 0"), 0);
         due.is("an empty line between", Due.fault("key 0;;key 0"), 6);
@@ -119,6 +122,7 @@ public final class TellingTest {
         due.is("soap 3", Due.fault("soap 3"), OneKey.NONE);
         due.is("soap 4", Due.fault("soap 4"), 5);
         due.is("soap 99", Due.fault("soap 99"), 5);
+        due.is("soap 19", Due.fault("soap 19"), 5);
         due.is("key", Due.fault("key 2"), 4);
         due.is("guard G", Due.fault("guard 2 0"), 6);
         due.is("guard R", Due.fault("guard 1 2"), 8);
@@ -143,6 +147,11 @@ public final class TellingTest {
         due.is("; for W", Due.fault("plain 0 1;key 1"), 9);
         due.is("; at the end", Due.fault("key 1;"), 6);
         due.is("; and a blank at the end", Due.fault("key 1; "), 7);
+        due.is("200 letters", Due.fault("k".repeat(200)), 0);
+        due.is("200 digits", Due.fault("key " + "1".repeat(196)), 4);
+        due.is("200 bytes, no number", Due.fault(" ".repeat(196) + "gaol"), 200);
+        due.is("200 bytes, no word", Due.fault(" ".repeat(194) + "key 1;"), 200);
+        due.is("200 bytes", Due.fault(" ".repeat(195) + "key 1"), OneKey.NONE);
         String ten = "soap 1;".repeat(9) + "soap 1";
         due.is("ten lines", Due.fault(ten), OneKey.NONE);
         due.is("the ; of an eleventh", Due.fault(ten + ";soap 1"), 69);
@@ -157,6 +166,13 @@ public final class TellingTest {
         due.is("rooms by a text ahead", Due.fault("key 4", "gaol 5"), OneKey.NONE);
         due.is("rooms become fewer", Due.fault("gaol 3;key 4", "gaol 5"), 11);
         due.is("hungry ones end with gaol", Due.fault("hungry 1;gaol 2;hungry 1", "hungry 0"), OneKey.NONE);
+        OneKey twice = new OneKey();
+        Due.write(twice, "hungry 1;plain 0 1 0");
+        due.is("read", twice.fault(), OneKey.NONE);
+        due.is("read again", twice.fault(), OneKey.NONE);
+        due.is("nothing is told by that", twice.count(1), 0);
+        due.is("done", twice.gaol(), 2);
+        due.is("a door", twice.count(1), 1);
         OneKey x = new OneKey();
         Due.write(x, "gaol 6;hungry 5;bad");
         due.is("fault", x.fault(), 16);
