@@ -3,9 +3,15 @@ final class Due {
     private final String test;
     private int calls;
     private int wrong;
+    private String sentence = "";
 
     Due(String test) {
         this.test = test;
+    }
+
+    /** Names the sentence of the document by which the answers behind it are due. */
+    void says(String words) {
+        sentence = "'" + words + "': ";
     }
 
     void is(String call, long got, long want) {
@@ -13,7 +19,7 @@ final class Due {
         if (got != want) {
             wrong++;
             if (wrong <= 50) {
-                System.out.println(test + ": " + call + " answered " + got + ", due is " + want);
+                System.out.println(test + ": " + sentence + call + " answered " + got + ", due is " + want);
             }
         }
     }

@@ -3,12 +3,12 @@ public final class ForetoldTest {
     private static final Due due = new Due("ForetoldTest");
     private static final int NONE = OneKey.NONE;
 
-    private static final String[] TEN_STUCK = {
+    static final String[] TEN_STUCK = {
         "gaol 6;kitchen 5;guard 1 2;hungry 3;hungry 4;hungry 0;hungry 1",
         "oneway 2 1 0;sticking 3 1 1;sticking 5 4 0;sticking 4 5 1;false 2 4 1;plain 3 4 0;sticking 0 1 1;oneway 2 3 0",
         "sticking 3 2 0",
     };
-    private static final String[] ELEVEN_STUCK = {
+    static final String[] ELEVEN_STUCK = {
         "gaol 6;kitchen 4;key 1;guard 0 1;guard 1 3;hungry 3;hungry 5;hungry 0;hungry 1",
         "sticking 4 5 0;weighed 5 0 1;false 4 3 1;false 1 3 0;sticking 5 1 1;two 2 0 0;sticking 3 1 0;two 1 3 0",
         "sticking 0 4 1",
